@@ -149,13 +149,7 @@ public final class BlockFinder {
     }
 
     private int addTo(Rectangles row, int x, int y, int w, int h) {
-        if (!liesOnSheet(x, y, w, h)) {
-            return OUTSIDE;
-        }
-        if (row.isFull()) {
-            return ROOM;
-        }
-        return row.add(x, y, x + w, y + h);
+        return liesOnSheet(x, y, w, h) ? row.add(x, y, x + w, y + h) : OUTSIDE;
     }
 
     private boolean liesOnSheet(int x, int y, int w, int h) {
@@ -213,6 +207,7 @@ public final class BlockFinder {
             return 0;
         }
         int sum = blocks.parts[b] >= 2 && blocks.parts[b] <= 6 ? 30 : 10;
+        // Both ends together are twice the middle.
         if (blocks.rectangles.left[b] + blocks.rectangles.right[b] >= sheetWidth) {
             sum += 15;
         }
@@ -283,13 +278,9 @@ public final class BlockFinder {
             return i >= 0 && i < count;
         }
 
-        boolean isFull() {
-            return count >= left.length;
-        }
-
         /** The number of the new rectangle, or ROOM. */
         int add(int leftEnd, int upperEnd, int rightEnd, int lowerEnd) {
-            if (isFull()) {
+            if (count >= left.length) {
                 return ROOM;
             }
             int number = count;

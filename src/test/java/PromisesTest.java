@@ -18,6 +18,7 @@ public final class PromisesTest {
         linesHangTogetherInChains();
         theWayWithFewerLines();
         findTakesWhatIsThere();
+        findOnFullSheets();
         foundStaysTillTheNextFind();
         blockDetails();
         lineDetails();
@@ -261,6 +262,42 @@ public final class PromisesTest {
         due("cleared", 0, f.find());
     }
 
+    private static void findOnFullSheets() {
+        BlockFinder apart = new BlockFinder(4096, 4096);
+        BlockFinder row = new BlockFinder(4096, 4096);
+        BlockFinder column = new BlockFinder(4096, 4096);
+        BlockFinder stack = new BlockFinder(4096, 4096);
+        for (int i = 0; i < 64; i++) {
+            // The grid is filled from its last place on, so that numbers and order go against each other.
+            apart.box(2100 + 100 * ((63 - i) % 8), 2100 + 100 * ((63 - i) / 8), 4, 4);
+            row.box(60 * (63 - i), 2000, 10, 40);
+            column.box(2000, 60 * (63 - i), 40, 10);
+            stack.box(2000, 60 * (63 - i), 2, 40);
+        }
+        for (int i = 0; i < 8; i++) {
+            apart.frame(2100 + i, 2100, 10, 10);
+        }
+        due("64 blocks", 64, apart.find());
+        due("64 candidates", 64, apart.candidates());
+        for (int i = 0; i < 64; i++) {
+            due("block of box " + i + " of 64", 63 - i, apart.blockOf(i));
+            dueBlock("of 64", apart, i, 2100 + 100 * (i % 8), 2100 + 100 * (i / 8), 4, 4, 1, 1);
+            due("points of 64", i == 0 ? 75 : 50, apart.points(i));
+        }
+        due("64 boxes in a row", 1, row.find());
+        dueBlock("a row", row, 0, 0, 2000, 3790, 40, 1, 64);
+        due("a row", false, row.turned());
+        due("64 boxes in a column", 1, column.find());
+        dueBlock("a column", column, 0, 2000, 0, 40, 3790, 1, 64);
+        due("a column", true, column.turned());
+        due("64 lines", 1, stack.find());
+        dueBlock("a stack", stack, 0, 2000, 0, 2, 3820, 64, 64);
+        for (int k = 0; k < 64; k++) {
+            dueLine("a stack", stack, 0, k, 2000, 60 * k, 2, 40, 1, 63 - k);
+        }
+        due("no line 64", BlockFinder.NONE, stack.line(0, 64, 0));
+    }
+
     private static void foundStaysTillTheNextFind() {
         BlockFinder f = found(200, 200, 10, 10, 10, 5);
         due("a sender", 0, f.points(0));
@@ -441,6 +478,7 @@ public final class PromisesTest {
         due("the same points: by y too", 2, same.blockOf(2));
         due("the same y: by x", 0, same.blockOf(0));
         due("the same y: more x", 1, same.blockOf(4));
+        due("y goes before x, by one", 1, found(400, 400, 210, 301, 9, 9, 350, 300, 9, 9).blockOf(0));
     }
 
     private static void blockOrderByLeastBox() {
