@@ -231,7 +231,8 @@ public final class PromisesTest {
         BlockFinder below = found(200, 200, 0, 0, 10, 10, 0, 12, 10, 10);
         due("one below the other", true, below.turned());
         due("one below the other: lines", 1, below.block(0, 4));
-        due("as many lines", false, found(200, 200, 0, 0, 10, 10, 12, 0, 10, 10, 0, 12, 10, 10, 12, 12, 10, 10).turned());
+        BlockFinder square = found(200, 200, 0, 0, 10, 10, 12, 0, 10, 10, 0, 12, 10, 10, 12, 12, 10, 10);
+        due("as many lines", false, square.turned());
         due("one box", false, found(200, 200, 0, 0, 10, 10).turned());
         BlockFinder again = below;
         again.clear();
