@@ -174,6 +174,7 @@ public final class PromisesBoundariesTest extends Boundaries {
         due("one box", 1, f.find());
         f.clear();
         due("without boxes any more", 0, f.find());
+        due("two lines of one block", 1, sheet(200, 200, 50, 0, 2, 10, 50, 14, 2, 10).find());
         BlockFinder apart = new BlockFinder(4096, 4096);
         for (int i = 0; i < 64; i++) {
             apart.box(100 * (i % 8), 100 * (i / 8), 4, 4);
@@ -224,9 +225,9 @@ public final class PromisesBoundariesTest extends Boundaries {
         same("behind " + behind, want, allFound(f));
     }
 
-    /** Block 0 of boxes 2 and 3, which is not printed, and block 1, a sender, of boxes 0 and 1. */
+    /** Block 0 of boxes 2 and 3, which is printed, and block 1, a sender, of boxes 0 and 1, which is not. */
     private static BlockFinder turnedBlocks() {
-        return foundOn(200, 200, 10, 10, 12, 10, 10, 22, 9, 10, 150, 150, 10, 10, 150, 162, 4, 10);
+        return foundOn(200, 200, 10, 10, 12, 10, 10, 22, 4, 10, 150, 150, 12, 10, 150, 162, 9, 10);
     }
 
     /** Were they found, the sheet would stand. */
@@ -240,8 +241,8 @@ public final class PromisesBoundariesTest extends Boundaries {
         BlockFinder f = turnedBlocks();
         due("turned", true, f.turned());
         due("candidates", 1, f.candidates());
-        due("printed", false, f.printed(0));
-        due("printed too", true, f.printed(1));
+        due("printed", true, f.printed(0));
+        due("not printed", false, f.printed(1));
         same("blocks of boxes", "1 1 0 0", blocksOfBoxes(f, 4));
         putRow(f);
         same("blocks of boxes behind box()", "1 1 0 0 -1 -1", blocksOfBoxes(f, 6));
@@ -478,6 +479,7 @@ public final class PromisesBoundariesTest extends Boundaries {
 
     private static void blockOfBox() {
         same("two blocks", "0 0 0 1", blocksOfBoxes(twoBlocks(), 4));
+        same("three blocks", "1 2 0", blocksOfBoxes(found(150, 70, 10, 10, 20, 70, 10, 10, 150, 150, 10, 10), 3));
         BlockFinder f = new BlockFinder(4096, 4096);
         for (int i = 0; i < 64; i++) {
             f.box(2100 + 100 * ((63 - i) % 8), 2100 + 100 * ((63 - i) / 8), 4, 4);
@@ -553,6 +555,7 @@ public final class PromisesBoundariesTest extends Boundaries {
         due("they stay", 4, f.candidates());
         f.find();
         due("none without boxes", 0, f.candidates());
+        due("of the least points", 1, foundOn(100, 100, 0, 0, 99, 99).candidates());
         due("a sender alone", 0, foundOn(200, 200, 0, 0, 10, 10).candidates());
         due("a stamp alone", 0, foundOn(200, 200, 180, 0, 10, 10).candidates());
         BlockFinder full = new BlockFinder(4096, 4096);

@@ -13,6 +13,7 @@ import java.util.Random;
 public final class ReferenceTest {
     private static final int RUNS = 6000;
     private static final int MOST_CALLS = 512;
+    private static final int MOST_CALLS_OF_A_ROUND = 150;
     private static int wrong = 0;
 
     public static void main(String[] args) {
@@ -55,7 +56,7 @@ public final class ReferenceTest {
 
         void go() {
             int rounds = 1 + random.nextInt(4);
-            for (int r = 0; r < rounds && calls < MOST_CALLS; r++) {
+            for (int r = 0; r < rounds && calls + MOST_CALLS_OF_A_ROUND <= MOST_CALLS; r++) {
                 int boxes = random.nextInt(random.nextInt(8) == 0 ? 70 : 14);
                 for (int i = 0; i < boxes; i++) {
                     int[] b = rectangle();
@@ -98,7 +99,7 @@ public final class ReferenceTest {
         }
 
         void askSome(int questions) {
-            for (int q = 0; q < questions && calls < MOST_CALLS; q++) {
+            for (int q = 0; q < questions; q++) {
                 ask();
             }
         }
@@ -135,6 +136,9 @@ public final class ReferenceTest {
 
         void due(String call, int want, int got) {
             calls++;
+            if (calls > MOST_CALLS) {
+                throw new IllegalStateException("answers to later calls are free");
+            }
             if (want != got) {
                 wrong++;
                 System.out.println("seed " + seed + ", call " + calls + ": " + call + " answered " + got

@@ -167,18 +167,18 @@ public final class TermsBoundariesTest extends Boundaries {
     private static void boxesAndLines() {
         says("twice the height that they have in common is at least the lesser of both heights",
                 () -> boxesByCommonHeight(false));
-        says("the same of widths, turned", () -> boxesByCommonHeight(true));
+        says("BOXES near, turned: the same of the width in common and widths", () -> boxesByCommonHeight(true));
         says("twice the gap between them is at most three times the greater of both heights",
                 () -> boxesByGap(false));
-        says("the same of the gap downwards, turned", () -> boxesByGap(true));
+        says("BOXES near, turned: the same of the gap downwards and widths", () -> boxesByGap(true));
         says("LINES are the sets of boxes that hang together by being near, one behind the other",
                 () -> boxesInChains(false));
-        says("the same, turned: lines", () -> boxesInChains(true));
+        says("LINES, turned: the same", () -> boxesInChains(true));
         says("THE WAY with fewer lines counts", TermsBoundariesTest::fewerLinesCount);
         says("the sheet stands if both have as many", TermsBoundariesTest::asManyLines);
     }
 
-    /** Two boxes that have no width in common and so are near in one way at most, or the other way round. */
+    /** Two boxes that have too little width in common to be near if turned, or the same exchanged. */
     private static void dueNear(String what, boolean near, boolean turned, int... two) {
         dueLines(what, near ? 1 : 2, turned && near, turned ? exchanged(two) : two);
     }
@@ -214,6 +214,7 @@ public final class TermsBoundariesTest extends Boundaries {
         dueNear("0", true, turned, 0, 100, 10, 1, 10, 100, 10, 1);
         // Wide boxes that lie over one another stay apart in the other way, by what they have in common there.
         dueNear("below 0", true, turned, 0, 100, 40, 10, 39, 100, 40, 10);
+        dueNear("far below 0", true, turned, 0, 100, 100, 10, 70, 100, 100, 10);
     }
 
     private static void boxesInChains(boolean turned) {
@@ -234,6 +235,10 @@ public final class TermsBoundariesTest extends Boundaries {
         dueLines("stairs", 1, turned, turned ? exchanged(stairs) : stairs);
         int[] joined = {60, 100, 10, 10, 20, 100, 10, 10, 80, 100, 10, 10, 0, 100, 10, 10, 40, 100, 10, 10};
         dueLines("two chains, joined by the last", 1, turned, turned ? exchanged(joined) : joined);
+        int[] mixed = {
+            0, 100, 10, 10, 100, 100, 10, 10, 40, 100, 10, 10, 60, 100, 10, 10,
+            120, 100, 10, 10, 20, 100, 10, 10, 80, 100, 10, 10};
+        dueLines("a chain of mixed numbers", 1, turned, turned ? exchanged(mixed) : mixed);
     }
 
     private static void fewerLinesCount() {
@@ -261,10 +266,10 @@ public final class TermsBoundariesTest extends Boundaries {
     private static void linesAndBlocks() {
         says("the left ends of their rectangles differ by the greater of both heights at most",
                 TermsBoundariesTest::linesByLeftEnds);
-        says("the same of upper ends and widths, turned", TermsBoundariesTest::linesByUpperEndsTurned);
+        says("LINES near, turned: the same of upper ends and widths", TermsBoundariesTest::linesByUpperEndsTurned);
         says("the gap from one to the other .. is twice the lesser of both heights at most",
                 TermsBoundariesTest::linesByGap);
-        says("the same of the gap to the right, turned", TermsBoundariesTest::linesByGapTurned);
+        says("LINES near, turned: the same of the gap to the right and widths", TermsBoundariesTest::linesByGapTurned);
         says("BLOCKS are the sets of lines that hang together so", TermsBoundariesTest::linesInChains);
         says("Lines are in the order of y", TermsBoundariesTest::linesByY);
         says("then x, of their rectangles", TermsBoundariesTest::linesByX);
@@ -332,6 +337,9 @@ public final class TermsBoundariesTest extends Boundaries {
         dueBlocks("each further to the right", 1, 3, false, 50, 0, 2, 10, 60, 14, 2, 10, 70, 28, 2, 10);
         dueBlocks("two chains, joined by the last", 1, 5, false,
                 50, 90, 2, 10, 50, 30, 2, 10, 50, 120, 2, 10, 50, 0, 2, 10, 50, 60, 2, 10);
+        dueBlocks("a chain of mixed numbers", 1, 7, false,
+                50, 0, 2, 10, 50, 150, 2, 10, 50, 60, 2, 10, 50, 90, 2, 10,
+                50, 180, 2, 10, 50, 30, 2, 10, 50, 120, 2, 10);
     }
 
     private static void linesByY() {
@@ -391,6 +399,8 @@ public final class TermsBoundariesTest extends Boundaries {
         duePoints("296 of 300", 35, 100, 99, 74, 20, 25, 13);
         duePoints("304 of 303", 0, 101, 99, 76, 20, 25, 13);
         duePoints("300 of 303", 35, 101, 99, 75, 20, 25, 13);
+        duePoints("312 of 309", 0, 103, 99, 78, 20, 25, 13);
+        duePoints("308 of 309", 35, 103, 99, 77, 20, 25, 13);
         duePoints("at the right end", 0, 100, 99, 99, 0, 1, 1);
         duePoints("on the largest sheet", 0, 4096, 4096, 3072, 0, 1024, 10);
         duePoints("left of it on the largest sheet", 35, 4096, 4096, 3071, 0, 1024, 10);
@@ -487,6 +497,7 @@ public final class TermsBoundariesTest extends Boundaries {
         duePoints("6 of 7", 50, 7, 1, 4, 0, 3, 1);
         duePoints("8 of 7", 40, 7, 1, 3, 0, 4, 1);
         duePoints("24 of 25", 50, 5, 5, 1, 2, 4, 3);
+        duePoints("more than half, and left, and above", 10, 100, 100, 0, 0, 99, 99);
         duePoints("all of the largest sheet", 40, 4096, 4096, 0, 0, 4096, 4096);
         duePoints("half of it", 50, 4096, 4096, 0, 2048, 4096, 2048);
         duePoints("half and one row", 40, 4096, 4096, 0, 2047, 4096, 2049);
@@ -543,7 +554,10 @@ public final class TermsBoundariesTest extends Boundaries {
             due("points(" + i + ")", want[i], f.points(i));
         }
         f = foundOn(200, 200, 150, 150, 10, 10, 0, 0, 10, 10);
-        same("0 points last, first as it is by place", "0 1", blocksOfBoxes(f, 2));
+        same("no points last, though above", "0 1", blocksOfBoxes(f, 2));
+        f = foundOn(200, 200, 0, 0, 10, 10, 150, 150, 10, 10, 150, 162, 10, 10);
+        due("turned", true, f.turned());
+        same("turned, no points last", "1 0 0", blocksOfBoxes(f, 3));
     }
 
     private static void blocksByY() {
@@ -560,13 +574,16 @@ public final class TermsBoundariesTest extends Boundaries {
      * upper corner of their rectangle.
      */
     private static void dueStairs(String what, String want, int width, int... sides) {
-        BlockFinder f = sheet(width, 100, sides);
+        dueTwoAlike(what, want, false, sheet(width, 100, sides));
+    }
+
+    private static void dueTwoAlike(String what, String want, boolean turned, BlockFinder f) {
         f.frame(0, 0, 2, 2);
         due(what + ": blocks", 2, f.find());
-        due(what + ": turned", false, f.turned());
+        due(what + ": turned", turned, f.turned());
         due(what + ": points", 45, f.points(0));
         due(what + ": points too", 45, f.points(1));
-        same(what, want, blocksOfBoxes(f, 4));
+        same(what, want, blocksOfBoxes(f, (want.length() + 1) / 2));
     }
 
     private static void blocksByX() {
@@ -586,10 +603,19 @@ public final class TermsBoundariesTest extends Boundaries {
         BlockFinder f = foundOn(400, 400, 260, 300, 10, 10, 350, 210, 10, 10, 300, 210, 10, 10, 300, 222, 10, 10,
                 260, 350, 10, 10);
         due("turned", true, f.turned());
-        same("places", "0 3 2 2 1", blocksOfBoxes(f, 5));
+        same("by x, then y", "0 3 2 2 1", blocksOfBoxes(f, 5));
+        f = foundOn(400, 400, 260, 350, 10, 10, 350, 210, 10, 10, 300, 210, 10, 10, 300, 222, 10, 10,
+                260, 300, 10, 10);
+        due("turned", true, f.turned());
+        same("by x, then y, against numbers", "1 3 2 2 0", blocksOfBoxes(f, 5));
         f = foundOn(400, 400, 301, 210, 9, 9, 300, 350, 9, 9, 300, 361, 9, 9);
         due("turned", true, f.turned());
         same("by x, by one, against y", "1 0 0", blocksOfBoxes(f, 3));
+        // Stairs like those above with x and y exchanged; two boxes of theirs are one line if turned.
+        dueTwoAlike("by the least box, the small one last", "0 0 0 0 1", true,
+                sheet(100, 42, 0, 40, 20, 2, 22, 20, 20, 2, 44, 0, 20, 2, 44, 3, 20, 1, 0, 0, 2, 1));
+        dueTwoAlike("by the least box, the small one first", "0 1 1 1 1", true,
+                sheet(100, 42, 0, 0, 2, 1, 0, 40, 20, 2, 22, 20, 20, 2, 44, 0, 20, 2, 44, 3, 20, 1));
     }
 
     private static void duePrinted(String what, boolean want, boolean turned, int... sides) {
